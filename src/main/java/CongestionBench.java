@@ -571,7 +571,7 @@ public final class CongestionBench {
     private static final class Timer {
         private int rto = FIRST_RTO;
         private int srtt;
-        private int var;
+        private int variance;
         private int due = NONE;
         private int measured = NONE;
         private int measuredSince;
@@ -614,12 +614,12 @@ public final class CongestionBench {
         private void learn(int r) {
             if (srtt == 0) {
                 srtt = 8 * r;
-                var = 2 * r;
+                variance = 2 * r;
             } else {
-                var = var - var / 4 + Math.abs(srtt / 8 - r);
+                variance = variance - variance / 4 + Math.abs(srtt / 8 - r);
                 srtt = srtt - srtt / 8 + r;
             }
-            int wanted = srtt / 8 + Math.max(1, var);
+            int wanted = srtt / 8 + Math.max(1, variance);
             rto = Math.min(MOST_RTO, Math.max(LEAST_RTO, wanted));
         }
     }
@@ -785,8 +785,11 @@ public final class CongestionBench {
             if (kind == SACK) {
                 board.learn(ack.board, una, high);
             }
-            if (more > 0) {
-                adaptToMore(more, road, now);
+            if (more > 0 && recovery) {
+                hearInRecovery(more, road, now);
+            } else if (more > 0) {
+                dup = 0;
+                grow(now);
             } else if (duplicate) {
                 countDuplicate();
                 if (startsRecovery()) {
@@ -843,7 +846,7 @@ public final class CongestionBench {
                 case 6:
                     return timer.srtt;
                 case 7:
-                    return timer.var;
+                    return timer.variance;
                 case 8:
                     return dup;
                 case 9:
@@ -931,11 +934,8 @@ public final class CongestionBench {
             }
         }
 
-        private void adaptToMore(int more, Road road, int now) {
-            if (!recovery) {
-                dup = 0;
-                grow(now);
-            } else if (kind == RENO || una >= recover) {
+        private void hearInRecovery(int more, Road road, int now) {
+            if (kind == RENO || una >= recover) {
                 setCwnd(ssthresh);
                 recovery = false;
                 dup = 0;
