@@ -1,17 +1,5 @@
 /** For each promise of the document, runs of calls whose answers were worked out by hand. */
-public final class PromiseRuns {
-    private static final int NONE = -1;
-    private static final int RENO = 0;
-    private static final int NEWRENO = 1;
-    private static final int CUBIC = 2;
-    private static final int SACK = 3;
-    private static final int LEAST = Integer.MIN_VALUE;
-    private static final int GREATEST = Integer.MAX_VALUE;
-
-    private static int wrong = 0;
-    private static int looked = 0;
-    private static String part = "";
-
+public final class PromiseRuns extends Due {
     public static void main(String[] args) {
         newObject();
         linkBounds();
@@ -58,69 +46,11 @@ public final class PromiseRuns {
         mostOfCwnd();
         countBounds();
         countAddsUp();
-        System.out.println(looked + " answers, " + wrong + " not as due");
-        if (wrong != 0) {
-            System.exit(1);
-        }
-    }
-
-    private static void due(String call, long got, long want) {
-        looked++;
-        if (got != want) {
-            wrong++;
-            System.out.println(part + ": " + call + " answered " + got + ", due is " + want);
-        }
-    }
-
-    private static void due(String call, boolean got, boolean want) {
-        due(call, got ? 1 : 0, want ? 1 : 0);
-    }
-
-    /** Pairs of a what and its answer. */
-    private static void senderIs(CongestionBench x, int flow, int... pairs) {
-        for (int i = 0; i + 1 < pairs.length; i += 2) {
-            due("at " + x.count(0) + " sender(" + flow + ", " + pairs[i] + ")", x.sender(flow, pairs[i]), pairs[i + 1]);
-        }
-    }
-
-    private static void receiverIs(CongestionBench x, int flow, int... pairs) {
-        for (int i = 0; i + 1 < pairs.length; i += 2) {
-            due("at " + x.count(0) + " receiver(" + flow + ", " + pairs[i] + ")", x.receiver(flow, pairs[i]), pairs[i + 1]);
-        }
-    }
-
-    private static void countIs(CongestionBench x, int... pairs) {
-        for (int i = 0; i + 1 < pairs.length; i += 2) {
-            due("at " + x.count(0) + " count(" + pairs[i] + ")", x.count(pairs[i]), pairs[i + 1]);
-        }
-    }
-
-    /** Runs so far that the TICK t has been, and t + 1 is next. */
-    private static int through(CongestionBench x, int t) {
-        return x.run(t + 1 - x.count(0));
-    }
-
-    private static CongestionBench one(int kind, boolean late, int segments) {
-        CongestionBench x = new CongestionBench();
-        x.flow(kind, late);
-        if (segments > 0) {
-            x.send(0, segments);
-        }
-        return x;
-    }
-
-    /** A round trip of 20 ticks: 1 on the link, 10 behind it, 9 back. */
-    private static CongestionBench quick(int kind, int segments, int... lost) {
-        CongestionBench x = one(kind, false, segments);
-        x.link(1, 100, 10, 9);
-        for (int n : lost) {
-            x.lose(n);
-        }
-        return x;
+        end();
     }
 
     private static void newObject() {
-        part = "1, new";
+        part("1, new");
         CongestionBench x = new CongestionBench();
         countIs(x, 0, 0, 1, 0, 2, 0, 3, 0, 4, 0, 5, 0, 6, 0, 7, 0, 8, 0, 9, 0);
         due("sender(0, 0)", x.sender(0, 0), NONE);
@@ -130,7 +60,7 @@ public final class PromiseRuns {
     }
 
     private static void linkBounds() {
-        part = "2, bounds";
+        part("2, bounds");
         CongestionBench x = one(RENO, false, 1);
         int[][] bad = {{0, 5, 5, 5}, {101, 5, 5, 5}, {5, -1, 5, 5}, {5, 101, 5, 5}, {5, 5, 0, 5}, {5, 5, 1001, 5},
             {5, 5, 5, 0}, {5, 5, 5, 1001}, {LEAST, 5, 5, 5}, {5, GREATEST, 5, 5}, {5, 5, LEAST, 5}, {5, 5, 5, GREATEST}};
@@ -146,7 +76,7 @@ public final class PromiseRuns {
     }
 
     private static void linkTimes() {
-        part = "2, times";
+        part("2, times");
         CongestionBench x = one(RENO, false, 2);
         x.link(100, 1, 1000, 1000);
         through(x, 0);
@@ -181,7 +111,7 @@ public final class PromiseRuns {
     }
 
     private static void linkChangesOvertake() {
-        part = "2, overtaking";
+        part("2, overtaking");
         CongestionBench x = one(RENO, false, 2);
         x.link(1, 1, 500, 1);
         through(x, 1);
@@ -192,7 +122,7 @@ public final class PromiseRuns {
         due("kept(0, 0)", x.kept(0, 0), 1);
         through(x, 501);
         receiverIs(x, 0, 0, 2, 1, 0);
-        part = "2, acks overtake";
+        part("2, acks overtake");
         x = one(RENO, false, 2);
         x.link(1, 1, 1, 900);
         through(x, 2);
@@ -207,7 +137,7 @@ public final class PromiseRuns {
 
     /** Two SEGMENTS come in one TICK: the one that left the link first comes first. */
     private static void linkOrder() {
-        part = "2, order";
+        part("2, order");
         int[][] forwards = {{30, 29}, {1000, 30, 29}, {1000, 10, 30, 29}};
         for (int[] ways : forwards) {
             CongestionBench x = new CongestionBench();
@@ -233,7 +163,7 @@ public final class PromiseRuns {
     }
 
     private static void linkRoom() {
-        part = "2, room";
+        part("2, room");
         CongestionBench x = one(RENO, false, 2);
         x.link(10, 0, 20, 20);
         due("run(1)", x.run(1), 2);
@@ -251,7 +181,7 @@ public final class PromiseRuns {
     }
 
     private static void flowNumbers() {
-        part = "3";
+        part("3");
         CongestionBench x = new CongestionBench();
         due("flow(-1)", x.flow(-1, false), NONE);
         due("flow(4)", x.flow(4, true), NONE);
@@ -273,7 +203,7 @@ public final class PromiseRuns {
     }
 
     private static void sendBounds() {
-        part = "4, bounds";
+        part("4, bounds");
         CongestionBench x = new CongestionBench();
         due("send(0, 1)", x.send(0, 1), NONE);
         x.flow(RENO, false);
@@ -296,7 +226,7 @@ public final class PromiseRuns {
     }
 
     private static void sendFromTheNextTick() {
-        part = "4, sending";
+        part("4, sending");
         CongestionBench x = one(RENO, false, 1);
         countIs(x, 2, 0);
         due("run(1)", x.run(1), 1);
@@ -305,7 +235,7 @@ public final class PromiseRuns {
         senderIs(x, 0, 1, 1);
         due("run(1)", x.run(1), 1);
         senderIs(x, 0, 1, 2, 18, 2);
-        part = "4, the window holds";
+        part("4, the window holds");
         x = one(RENO, false, 100);
         x.window(0, 1);
         through(x, 20);
@@ -317,7 +247,7 @@ public final class PromiseRuns {
     }
 
     private static void windowBounds() {
-        part = "5, bounds";
+        part("5, bounds");
         CongestionBench x = new CongestionBench();
         due("window(0, 5)", x.window(0, 5), NONE);
         x.flow(RENO, false);
@@ -339,7 +269,7 @@ public final class PromiseRuns {
     }
 
     private static void windowIsTold() {
-        part = "5, told";
+        part("5, told");
         CongestionBench x = new CongestionBench();
         x.flow(RENO, false);
         x.flow(SACK, true);
@@ -353,7 +283,7 @@ public final class PromiseRuns {
         senderIs(x, 0, 13, 9, 8, 0);
         senderIs(x, 1, 13, 7, 8, 0);
         countIs(x, 7, 0);
-        part = "5, pays the late answer";
+        part("5, pays the late answer");
         x = one(RENO, true, 1);
         through(x, 30);
         receiverIs(x, 0, 6, 130, 3, 0);
@@ -366,7 +296,7 @@ public final class PromiseRuns {
     }
 
     private static void windowShrinksBelowKept() {
-        part = "5, kept stay";
+        part("5, kept stay");
         CongestionBench x = quick(RENO, 100, 2);
         through(x, 33);
         receiverIs(x, 0, 0, 2, 1, 3);
@@ -377,7 +307,7 @@ public final class PromiseRuns {
     }
 
     private static void windowAckIsNoDuplicate() {
-        part = "5, no duplicate";
+        part("5, no duplicate");
         // To 41 and back: the last of the three ACKS tells the WINDOW that W is, and is none still.
         CongestionBench x = quick(RENO, 2);
         x.link(100, 100, 1000, 1);
@@ -394,7 +324,7 @@ public final class PromiseRuns {
     }
 
     private static void loseBounds() {
-        part = "6, bounds";
+        part("6, bounds");
         CongestionBench x = one(RENO, false, 3);
         due("lose(-1)", x.lose(-1), false);
         due("lose(LEAST)", x.lose(LEAST), false);
@@ -414,7 +344,7 @@ public final class PromiseRuns {
     }
 
     private static void loseIsByAllFlows() {
-        part = "6, of all flows";
+        part("6, of all flows");
         CongestionBench x = one(RENO, false, 2);
         x.flow(RENO, false);
         x.send(1, 2);
@@ -427,7 +357,7 @@ public final class PromiseRuns {
     }
 
     private static void runBounds() {
-        part = "7, bounds";
+        part("7, bounds");
         CongestionBench x = one(RENO, false, 3);
         int[] bad = {0, -1, 20001, LEAST, GREATEST};
         for (int n : bad) {
@@ -441,7 +371,7 @@ public final class PromiseRuns {
     }
 
     private static void runByManyIsRunByOne() {
-        part = "7, in parts";
+        part("7, in parts");
         for (int kind = RENO; kind <= SACK; kind++) {
             CongestionBench whole = quick(kind, 3000, 3, 11, 12, 40, 41, 77);
             CongestionBench parts = quick(kind, 3000, 3, 11, 12, 40, 41, 77);
@@ -457,7 +387,7 @@ public final class PromiseRuns {
     }
 
     private static void slowStart() {
-        part = "8, slow start";
+        part("8, slow start");
         CongestionBench x = one(NEWRENO, false, 10);
         due("run(1)", x.run(1), 2);
         senderIs(x, 0, 0, 0, 1, 2, 2, 2, 3, 2048, 14, 1000, 18, 2);
@@ -472,7 +402,7 @@ public final class PromiseRuns {
         senderIs(x, 0, 0, 3, 3, 5120, 6, 400, 7, 75);
         through(x, 400);
         senderIs(x, 0, 0, 10, 1, 10, 2, 10, 12, 0, 14, NONE, 18, 0, 10, 0);
-        part = "8, RTO";
+        part("8, RTO");
         x = one(RENO, false, 2);
         x.link(100, 20, 1000, 400);
         // Both are out at 0; the TIMER is due at 1000, so nothing is MEASURED.
@@ -491,7 +421,7 @@ public final class PromiseRuns {
     }
 
     private static void senderBounds() {
-        part = "8, bounds";
+        part("8, bounds");
         CongestionBench x = one(RENO, false, 1);
         due("sender(0, -1)", x.sender(0, -1), NONE);
         due("sender(0, 19)", x.sender(0, 19), NONE);
@@ -503,7 +433,7 @@ public final class PromiseRuns {
     }
 
     private static void congestionAvoidance() {
-        part = "8, growth";
+        part("8, growth");
         CongestionBench x = one(RENO, false, 1);
         x.lose(0);
         through(x, 1050);
@@ -518,7 +448,7 @@ public final class PromiseRuns {
     }
 
     private static void cwndIsBounded() {
-        part = "8, CWND's bound";
+        part("8, CWND's bound");
         CongestionBench x = quick(RENO, 100000);
         x.run(20000);
         due("CWND", x.sender(0, 3), 262144);
@@ -528,7 +458,7 @@ public final class PromiseRuns {
     }
 
     private static void timeout() {
-        part = "8, timeout";
+        part("8, timeout");
         CongestionBench x = quick(CUBIC, 8, 2, 3, 4, 5, 6, 7);
         through(x, 21);
         senderIs(x, 0, 0, 2, 1, 6, 3, 4096, 14, 221, 16, 0);
@@ -539,7 +469,7 @@ public final class PromiseRuns {
         // Number 6 of all is lost too.
         through(x, 621);
         senderIs(x, 0, 3, 1024, 4, 2048, 5, 800, 10, 2, 12, 2, 14, 1421, 16, 870);
-        part = "8, timeout of others";
+        part("8, timeout of others");
         x = quick(NEWRENO, 100, 6, 7, 8, 9, 10, 11, 12, 13);
         through(x, 43);
         senderIs(x, 0, 0, 6, 1, 14, 3, 8192, 14, 243);
@@ -550,7 +480,7 @@ public final class PromiseRuns {
     }
 
     private static void timeoutsDouble() {
-        part = "8, RTO doubles";
+        part("8, RTO doubles");
         CongestionBench x = one(RENO, false, 1);
         for (int n = 0; n < 10; n++) {
             x.lose(n);
@@ -571,7 +501,7 @@ public final class PromiseRuns {
     }
 
     private static void measuredIsNotSentAgain() {
-        part = "8, measured";
+        part("8, measured");
         CongestionBench x = one(RENO, false, 1);
         x.lose(0);
         through(x, 1050);
@@ -591,7 +521,7 @@ public final class PromiseRuns {
     }
 
     private static void probe() {
-        part = "8, probe";
+        part("8, probe");
         CongestionBench x = shut(RENO, true);
         senderIs(x, 0, 13, 0, 14, NONE);
         due("run(1)", x.run(1), 0);
@@ -617,7 +547,7 @@ public final class PromiseRuns {
     }
 
     private static void probeAckIsNoDuplicate() {
-        part = "8, a probe's ACK";
+        part("8, a probe's ACK");
         // The PROBE comes to a shut WINDOW at 1051; its ACK takes long, and W opens and shuts ahead of it.
         CongestionBench x = shut(RENO, false);
         through(x, 1021);
@@ -637,7 +567,7 @@ public final class PromiseRuns {
     }
 
     private static void probeIsTaken() {
-        part = "8, a probe that is taken";
+        part("8, a probe that is taken");
         CongestionBench x = shut(RENO, false);
         through(x, 1050);
         x.link(10, 20, 20, 1);
@@ -650,7 +580,7 @@ public final class PromiseRuns {
     }
 
     private static void renoRecovers() {
-        part = "8, RENO";
+        part("8, RENO");
         CongestionBench x = quick(RENO, 100, 2);
         through(x, 41);
         senderIs(x, 0, 0, 2, 1, 6, 3, 4096, 8, 2, 9, 0, 14, 221);
@@ -666,7 +596,7 @@ public final class PromiseRuns {
     }
 
     private static void renoInflates() {
-        part = "8, RENO's end";
+        part("8, RENO's end");
         CongestionBench x = quick(RENO, 100, 6, 8);
         through(x, 62);
         senderIs(x, 0, 3, 7168, 4, 4096, 9, 1, 1, 14, 12, 1);
@@ -681,7 +611,7 @@ public final class PromiseRuns {
     }
 
     private static void newRenoPartial() {
-        part = "8, NEWRENO";
+        part("8, NEWRENO");
         CongestionBench x = quick(NEWRENO, 100, 6, 8);
         through(x, 65);
         senderIs(x, 0, 3, 10240, 8, 6, 1, 16, 9, 1);
@@ -694,7 +624,7 @@ public final class PromiseRuns {
     }
 
     private static void newRenoFallsTo1024() {
-        part = "8, NEWRENO's least CWND";
+        part("8, NEWRENO's least CWND");
         // Three ACKS are quick, the others slow, until 14 is sent again: 15 are told at once.
         CongestionBench x = quick(NEWRENO, 30, 14, 29);
         through(x, 73);
@@ -710,7 +640,7 @@ public final class PromiseRuns {
     }
 
     private static void notBelowRecover() {
-        part = "8, RECOVER";
+        part("8, RECOVER");
         // 6, 7 and 10 are lost, then 6 as it is sent again, 14, and 10 as it is sent behind the TIMEOUT.
         for (int kind = RENO; kind <= NEWRENO; kind++) {
             CongestionBench x = quick(kind, 100, 6, 7, 10, 14, 15, 19);
@@ -727,7 +657,7 @@ public final class PromiseRuns {
     }
 
     private static void otherWindowIsNoDuplicate() {
-        part = "8, W as it was";
+        part("8, W as it was");
         CongestionBench x = quick(RENO, 100, 2);
         through(x, 30);
         x.window(0, 39);
@@ -738,7 +668,7 @@ public final class PromiseRuns {
     }
 
     private static void sackRecovers() {
-        part = "8, SACK";
+        part("8, SACK");
         CongestionBench x = quick(SACK, 100, 2);
         due("to 42", through(x, 42), 8);
         senderIs(x, 0, 0, 2, 1, 7, 3, 2048, 4, 2048, 8, 3, 9, 1, 12, 1, 18, 2);
@@ -747,7 +677,7 @@ public final class PromiseRuns {
     }
 
     private static void sackPipe() {
-        part = "8, PIPE";
+        part("8, PIPE");
         CongestionBench x = quick(SACK, 100, 6, 8);
         through(x, 61);
         senderIs(x, 0, 18, 8, 8, 2);
@@ -769,7 +699,7 @@ public final class PromiseRuns {
     }
 
     private static void cubicLosesAndGrows() {
-        part = "8, CUBIC";
+        part("8, CUBIC");
         CongestionBench x = quick(CUBIC, 100, 6);
         through(x, 61);
         senderIs(x, 0, 3, 8192, 16, 0, 17, 0);
@@ -786,21 +716,21 @@ public final class PromiseRuns {
     }
 
     private static void cubicFallsTwice() {
-        part = "8, CUBIC's WMAX";
+        part("8, CUBIC's WMAX");
         CongestionBench x = quick(CUBIC, 1, 0, 1);
         through(x, 1000);
         senderIs(x, 0, 16, 2048, 4, 2048, 3, 1024);
         // CWND 1024 is below WMAX then: 870.
         through(x, 3000);
         senderIs(x, 0, 16, 870, 10, 2);
-        part = "8, others' WMAX";
+        part("8, others' WMAX");
         x = quick(SACK, 100, 6);
         x.run(2000);
         senderIs(x, 0, 16, 0, 17, 0, 11, 1);
     }
 
     private static void cubicHoldsD() {
-        part = "8, CUBIC's d";
+        part("8, CUBIC's d");
         CongestionBench x = quick(CUBIC, 100, 6);
         for (int i = 0; i < 8; i++) {
             x.run(20000);
@@ -814,25 +744,25 @@ public final class PromiseRuns {
     }
 
     private static void receiverBounds() {
-        part = "9, bounds";
+        part("9, bounds");
         CongestionBench x = one(RENO, false, 1);
         due("receiver(0, -1)", x.receiver(0, -1), NONE);
         due("receiver(0, 7)", x.receiver(0, 7), NONE);
         due("receiver(0, GREATEST)", x.receiver(0, GREATEST), NONE);
         due("receiver(1, 2)", x.receiver(1, 2), NONE);
         due("receiver(-1, 2)", x.receiver(-1, 2), NONE);
-        part = "9, counts";
+        part("9, counts");
         through(x, 29);
         receiverIs(x, 0, 0, 0, 3, 0, 4, 0);
         through(x, 30);
         receiverIs(x, 0, 0, 1, 1, 0, 2, 40, 3, 1, 4, 1, 5, 0, 6, NONE);
-        part = "9, there already";
+        part("9, there already");
         // RTO 1000 is up ahead of the ACK: the SEGMENT comes twice.
         x = one(RENO, false, 1);
         x.link(1, 1, 1000, 1000);
         x.run(3000);
         receiverIs(x, 0, 0, 1, 3, 2, 4, 2, 5, 1);
-        part = "9, kept already";
+        part("9, kept already");
         // 0 is lost; 1 is KEPT at 3, and again when the TIMEOUT's way sends it.
         x = one(RENO, false, 2);
         x.link(1, 1, 1, 1);
@@ -845,7 +775,7 @@ public final class PromiseRuns {
     }
 
     private static void receiverLate() {
-        part = "9, late";
+        part("9, late");
         CongestionBench x = one(RENO, true, 1);
         through(x, 30);
         receiverIs(x, 0, 0, 1, 3, 0, 6, 130);
@@ -857,7 +787,7 @@ public final class PromiseRuns {
         senderIs(x, 0, 0, 0);
         through(x, 150);
         senderIs(x, 0, 0, 1, 3, 3072, 6, 1200);
-        part = "9, every second";
+        part("9, every second");
         x = one(RENO, true, 2);
         through(x, 30);
         receiverIs(x, 0, 3, 0, 6, 130);
@@ -868,7 +798,7 @@ public final class PromiseRuns {
     }
 
     private static void receiverLateBehindHole() {
-        part = "9, late at a hole";
+        part("9, late at a hole");
         CongestionBench x = one(RENO, true, 100);
         x.link(1, 100, 10, 9);
         x.lose(0);
@@ -883,7 +813,7 @@ public final class PromiseRuns {
     }
 
     private static void keptOnes() {
-        part = "10";
+        part("10");
         CongestionBench x = quick(RENO, 100, 6, 8);
         due("kept(0, 0)", x.kept(0, 0), NONE);
         through(x, 56);
@@ -903,7 +833,7 @@ public final class PromiseRuns {
     }
 
     private static void mostOfCwnd() {
-        part = "11";
+        part("11");
         CongestionBench x = quick(NEWRENO, 100, 6, 8);
         due("most(0)", x.most(0), 2048);
         due("most(1)", x.most(1), 0);
@@ -921,7 +851,7 @@ public final class PromiseRuns {
     }
 
     private static void countBounds() {
-        part = "12, bounds";
+        part("12, bounds");
         CongestionBench x = one(RENO, false, 1);
         due("count(-1)", x.count(-1), NONE);
         due("count(10)", x.count(10), NONE);
@@ -938,7 +868,7 @@ public final class PromiseRuns {
     }
 
     private static void countAddsUp() {
-        part = "12, sums";
+        part("12, sums");
         CongestionBench x = new CongestionBench();
         for (int f = 0; f < 4; f++) {
             x.flow(f, f % 2 == 0);
