@@ -23,6 +23,7 @@ public final class SenderEdges extends Due {
         measuredOneAtATime();
         rtoAtLeast();
         rtoDoublesUpToMost();
+        rtoMeasuredUpToMost();
         senderWhats();
         mostOfFlows();
         end();
@@ -428,6 +429,55 @@ public final class SenderEdges extends Due {
             x.run(1);
             senderIs(x, 1, 5, Math.min(60000, 6 * r), 10, 5);
         }
+    }
+
+    /** "RTO = .., held between its bounds": sums of 59999, 60000 and 60001. */
+    private static void rtoMeasuredUpToMost() {
+        part("IV, MOST as it is measured");
+        for (int back = 586; back <= 588; back++) {
+            CongestionBench x = longTrip();
+            x.link(100, 100, 1, back);
+            x.run(10000);
+            int r = 52699 + back;
+            senderIs(x, 1, 0, 620, 6, 210 - 26 + r, 7, 76 - 19 + r - 26, 9, 0, 10, 10);
+            due("SRTT / 8 + VAR", x.sender(1, 6) / 8 + x.sender(1, 7), 59413 + back);
+            senderIs(x, 1, 5, Math.min(60000, 59413 + back));
+        }
+    }
+
+    /**
+     * FLOW 1 has a SEGMENT under way behind seven holes, each of which takes some 7500 ticks as
+     * FLOW 0 fills the QUEUE, and the last of them is about to be filled. Ahead of that nearly a
+     * whole window was DROPPED, and one of it lost time and again until RTO was 60000: what was
+     * sent again then is not MEASURED, so that CWND has grown, and RTO is 60000 still.
+     */
+    private static CongestionBench longTrip() {
+        CongestionBench x = wide(RENO, false);
+        x.flow(NEWRENO, false);
+        x.send(1, 400);
+        x.run(2000);
+        x.window(1, 200);
+        x.window(0, 74);
+        x.run(10);
+        x.link(1, 0, 1, 1);
+        x.send(1, 200);
+        x.run(1);
+        x.link(1, 100, 1, 1);
+        for (int n = 1000; n < 1009; n++) {
+            x.lose(n);
+        }
+        through(x, 207020);
+        senderIs(x, 1, 0, 600, 1, 600, 2, 600, 3, 20472, 5, 60000, 6, 210, 7, 76, 10, 10);
+        x.link(100, 100, 1, 1);
+        x.send(0, 5000);
+        through(x, 247021);
+        for (int i = 0; i < 7; i++) {
+            x.lose(x.count(2) + 2 * i);
+        }
+        x.send(1, 20);
+        through(x, 300722);
+        senderIs(x, 1, 0, 612, 1, 620, 2, 620, 5, 60000, 6, 210, 7, 76, 9, 1, 10, 10);
+        return x;
     }
 
     /** "NONE without it, or for another what. (16, 17: 0 but of CUBIC.)" */
