@@ -20,6 +20,8 @@ public final class LinkEdges extends Due {
         sendOneToHundredThousand();
         sendUpToMillion();
         sendsNoMoreThanTold();
+        millionAreSent();
+        fiveHundredAndTwelveCalls();
         loseTheNextOne();
         loseSixtyFour();
         loseTwice();
@@ -302,6 +304,38 @@ public final class LinkEdges extends Due {
         through(x, 1000);
         senderIs(x, 0, 0, 3, 1, 3, 2, 3);
         countIs(x, 2, 3);
+    }
+
+    /** All of the 1000000, one a TICK: the numbers go so far, and there is an end. */
+    private static void millionAreSent() {
+        part("4, a million are sent");
+        CongestionBench x = one(SACK, true, 100000);
+        x.link(1, 100, 1, 1);
+        for (int i = 0; i < 9; i++) {
+            x.send(0, 100000);
+        }
+        int sent = 0;
+        for (int i = 0; i < 51; i++) {
+            sent += x.run(20000);
+        }
+        due("sent", sent, 1000000);
+        countIs(x, 0, 1020000, 2, 1000000, 4, 0, 9, 1000000, 6, 0, 7, 0);
+        senderIs(x, 0, 0, 1000000, 1, 1000000, 2, 1000000, 12, 0, 14, NONE, 18, 0);
+        receiverIs(x, 0, 0, 1000000, 1, 0, 4, 1000000, 5, 0, 6, NONE);
+        due("send(0, 1)", x.send(0, 1), NONE);
+        due("run(20000)", x.run(20000), 0);
+    }
+
+    /** "At most 512 calls": the last of them is answered as the first is. */
+    private static void fiveHundredAndTwelveCalls() {
+        part("512 calls");
+        CongestionBench x = one(CUBIC, false, 100000);
+        x.lose(77);
+        int sent = 0;
+        for (int call = 4; call <= 511; call++) {
+            sent += x.run(1 + call % 7);
+        }
+        due("the last call", x.count(2), sent);
     }
 
     /** "False .. it was sent already": the next number is not, the one ahead of it is. */

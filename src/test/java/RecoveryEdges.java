@@ -7,10 +7,12 @@ public final class RecoveryEdges extends Due {
 
     public static void main(String[] args) {
         duplicateNeedsMoreOut();
+        duplicatesEndWithMore();
         duplicatesUpToThree();
         twoDuplicatesAreNone();
         unaNotBelowRecover();
         ackOfRecoverOrMore();
+        oneMoreInRecovery();
         cwndAtLeast();
         cubicCwndAtLeast();
         ssthreshAtLeastInTimeout();
@@ -46,6 +48,26 @@ public final class RecoveryEdges extends Due {
             senderIs(x, 0, 0, 1, 1, 1 + more, 8, 0);
             through(x, 2101);
             senderIs(x, 0, 0, 1, 1, 1 + more, 8, more);
+        }
+    }
+
+    /**
+     * "N more, no RECOVERY: DUP = 0": 2 takes longer than 3, 4 and 5, so that one, two or all three
+     * of them come ahead of it; with three RECOVERY begins, and ends with 2.
+     */
+    private static void duplicatesEndWithMore() {
+        part("V, DUP 0");
+        for (int ahead = 1; ahead <= 3; ahead++) {
+            CongestionBench x = quick(RENO, 6);
+            through(x, 20);
+            x.link(1, 100, 11 + ahead, 9);
+            x.run(1);
+            x.link(1, 100, 10, 9);
+            through(x, 40 + ahead);
+            senderIs(x, 0, 0, 2, 8, ahead, 9, ahead == 3 ? 1 : 0, 11, ahead == 3 ? 1 : 0);
+            through(x, 41 + ahead);
+            // With one ahead of it 2 and 4 come in one TICK, and 5 in the next.
+            senderIs(x, 0, 0, ahead == 1 ? 5 : 6, 8, 0, 9, 0, 3, ahead == 3 ? 2048 : 6144);
         }
     }
 
@@ -126,6 +148,27 @@ public final class RecoveryEdges extends Due {
                 boolean partial = !ends && kind != SACK;
                 senderIs(x, 0, 3, ssthresh[kind] + (partial ? 1024 * (13 - a) : 0), 8, ends ? 0 : 6, 12, partial ? 2 : 1);
             }
+        }
+    }
+
+    /** "N more in RECOVERY", and N is 1: 6 and 7 are lost, or 6 and 13, which is told alone in the end. */
+    private static void oneMoreInRecovery() {
+        part("V, one more");
+        for (int kind : KINDS) {
+            CongestionBench x = quick(kind, 14, 6, 7);
+            through(x, 82);
+            senderIs(x, 0, 0, 6, 8, 6, 9, 1, 12, kind == SACK ? 2 : 1);
+            int cwnd = x.sender(0, 3);
+            through(x, 83);
+            boolean ends = kind == RENO;
+            senderIs(x, 0, 0, 7, 9, ends ? 0 : 1, 3, ends ? 4096 : cwnd, 8, ends ? 0 : 6, 12, ends ? 1 : 2);
+        }
+        for (int kind : new int[] {NEWRENO, CUBIC}) {
+            CongestionBench x = quick(kind, 14, 6, 13);
+            through(x, 101);
+            senderIs(x, 0, 0, 13, 9, 1, 12, 2);
+            through(x, 102);
+            senderIs(x, 0, 0, 14, 9, 0, 8, 0, 3, kind == CUBIC ? 5734 : 4096);
         }
     }
 
@@ -388,7 +431,7 @@ public final class RecoveryEdges extends Due {
     /**
      * "d .. held between -100000 and 100000": TARGET is CWND * 3 / 2 long before, so what is seen is
      * that no greater d, whose third power is beyond a long, does otherwise. (d is never below
-     * -8617, which is the greatest K.)
+     * -5769, for CWND is at least SSTHRESH.)
      */
     private static void dAtMost() {
         part("VI, d");

@@ -17,10 +17,13 @@ public final class SenderEdges extends Due {
         probeWithNothingToSend();
         probeBehindTimeout();
         probeStillShut();
+        probePutOffByOne();
         probeDoublesUpToMost();
         ackBelowUna();
+        ackAboveNxt();
         ackThatTellsTheMeasured();
         measuredOneAtATime();
+        measuredUntilTheTimer();
         rtoAtLeast();
         rtoDoublesUpToMost();
         rtoMeasuredUpToMost();
@@ -290,6 +293,21 @@ public final class SenderEdges extends Due {
         senderIs(x, 0, 13, 0, 14, 3021, 8, 0);
     }
 
+    /** "An ACK with W above 0 behind which NXT is UNA puts it off": a W of 1 does, and one of 0 does not. */
+    private static void probePutOffByOne() {
+        part("III, a PROBE is put off");
+        for (int w = 0; w <= 2; w++) {
+            CongestionBench x = told(0);
+            through(x, 99);
+            x.window(0, 3);
+            x.window(0, w);
+            through(x, 119);
+            senderIs(x, 0, 13, 0, 14, 1021);
+            due("at 120", through(x, 120), w);
+            senderIs(x, 0, 13, w, 14, w == 0 ? 1021 : 1120, 1, w, 15, 0);
+        }
+    }
+
     /** "RTO doubles (held to MOST)": 1000, 2000, .. 32000, and 60000 from then on. */
     private static void probeDoublesUpToMost() {
         part("III, PROBES up to MOST");
@@ -331,6 +349,24 @@ public final class SenderEdges extends Due {
         }
     }
 
+    /**
+     * "NXT is A at least": a TIMEOUT at 1000 has made NXT 0, and 0 is sent again, so it is 1. Then
+     * come ACKS that tell 1 and 2; or, as answers are late, one that tells 2.
+     */
+    private static void ackAboveNxt() {
+        part("IV, NXT is A at least");
+        for (int late = 0; late <= 1; late++) {
+            CongestionBench x = one(RENO, late == 1, 2);
+            x.link(1, 20, 600, 450);
+            through(x, 1000);
+            senderIs(x, 0, 0, 0, 1, 1, 2, 2, 10, 1, 12, 1);
+            due("at 1051", through(x, 1051), 1 - late);
+            senderIs(x, 0, 0, 1 - late, 1, 2 - late, 12, 2 - late);
+            due("at 1052", through(x, 1052), 0);
+            senderIs(x, 0, 0, 2, 1, 2, 2, 2, 3, late == 1 ? 2048 : 2560, 12, 2 - late, 14, NONE, 18, 0);
+        }
+    }
+
     /** "An ACK that tells more than it": one that tells just the MEASURED gives nothing. */
     private static void ackThatTellsTheMeasured() {
         part("IV, more than the MEASURED");
@@ -362,6 +398,19 @@ public final class SenderEdges extends Due {
         senderIs(x, 0, 0, 6, 6, 160, 7, 40);
         through(x, 63);
         senderIs(x, 0, 0, 7, 6, 161, 7, 31);
+    }
+
+    /** "It is no more when .. the TIMER is due": 1 is lost; 2 is MEASURED, and is told with it behind a TIMEOUT. */
+    private static void measuredUntilTheTimer() {
+        part("IV, MEASURED until the TIMER");
+        for (int lost = 1; lost <= 2; lost++) {
+            CongestionBench x = quick(RENO, lost == 1 ? 4 : 6, lost == 1 ? 1 : 2);
+            through(x, 39 + lost);
+            senderIs(x, 0, 0, lost, 6, 160, 7, 40, 9, 0);
+            through(x, 400);
+            // With 2 lost three are behind it: the RECOVERY fills it, and 2 itself was the MEASURED one.
+            senderIs(x, 0, 0, lost == 1 ? 4 : 6, 6, 160, 7, 40, 10, 2 - lost, 11, lost - 1);
+        }
     }
 
     /** "Between LEAST 200 ..": sums of 198 to 201, at first and later. */
