@@ -43,13 +43,14 @@ public final class LinkEdges extends Due {
         told.run(2000);
         same("at 2000", x, told);
         due("some are dropped", x.count(4) > 0, true);
+        int[] first = answers(x);
         int[][] others = {{9, 20, 20, 20}, {11, 20, 20, 20}, {10, 19, 20, 20}, {10, 21, 20, 20}, {10, 20, 19, 20},
             {10, 20, 21, 20}, {10, 20, 20, 19}, {10, 20, 20, 21}};
         for (int[] n : others) {
             CongestionBench other = fourBusy();
             other.link(n[0], n[1], n[2], n[3]);
             other.run(2000);
-            boolean alike = Arrays.equals(answers(other), answers(x));
+            boolean alike = Arrays.equals(answers(other), first);
             due("as with link(" + n[0] + ", " + n[1] + ", " + n[2] + ", " + n[3] + ")", alike, false);
         }
     }
