@@ -13,6 +13,7 @@ public final class RecoveryEdges extends Due {
         unaNotBelowRecover();
         ackOfRecoverOrMore();
         oneMoreInRecovery();
+        timeoutEndsRecovery();
         cwndAtLeast();
         cubicCwndAtLeast();
         ssthreshAtLeastInTimeout();
@@ -169,6 +170,22 @@ public final class RecoveryEdges extends Due {
             senderIs(x, 0, 0, 13, 9, 1, 12, 2);
             through(x, 102);
             senderIs(x, 0, 0, 14, 9, 0, 8, 0, 3, kind == CUBIC ? 5734 : 4096);
+        }
+    }
+
+    /** "RECOVERY ends; DUP 0": 6 is lost again as number 14, and the TIMER is due at 243. */
+    private static void timeoutEndsRecovery() {
+        part("IV, a TIMEOUT in RECOVERY");
+        int[] cwnds = {11264, 11264, 12902, 4096};
+        for (int kind : KINDS) {
+            CongestionBench x = quick(kind, 14, 6, 14);
+            through(x, 242);
+            senderIs(x, 0, 0, 6, 1, 14, 3, cwnds[kind], 8, 7, 9, 1, 10, 0, 11, 1, 12, 1, 14, 243);
+            through(x, 243);
+            int ssthresh = kind == CUBIC ? 9031 : 4096;
+            senderIs(x, 0, 0, 6, 1, 7, 2, 14, 3, 1024, 4, ssthresh, 5, 400, 8, 0, 9, 0, 10, 1, 11, 1, 12, 2, 14, 643, 18, 1);
+            through(x, 263);
+            senderIs(x, 0, 0, 14, 1, 14, 3, 2048, 9, 0, 12, 2, 14, NONE);
         }
     }
 
