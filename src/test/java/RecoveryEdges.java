@@ -7,6 +7,7 @@ public final class RecoveryEdges extends Due {
 
     public static void main(String[] args) {
         duplicateNeedsMoreOut();
+        duplicateThatIsLate();
         duplicatesEndWithMore();
         duplicatesUpToThree();
         twoDuplicatesAreNone();
@@ -20,6 +21,8 @@ public final class RecoveryEdges extends Due {
         ssthreshAtLeastInRecovery();
         belowSsthresh();
         threeOnBoard();
+        threeFarApart();
+        nothingOnBoard();
         sackBelowUnaAndW();
         sackWhatIsToBeSent();
         cubicSsthreshAtLeast();
@@ -49,6 +52,35 @@ public final class RecoveryEdges extends Due {
             senderIs(x, 0, 0, 1, 1, 1 + more, 8, 0);
             through(x, 2101);
             senderIs(x, 0, 0, 1, 1, 1 + more, 8, more);
+        }
+    }
+
+    /**
+     * "It does not come of a PROBE's or WINDOW's telling": an answer that is late does not, but that
+     * of a WINDOW's change does, if both tell what is told already and take 200 TICKS.
+     */
+    private static void duplicateThatIsLate() {
+        part("IV, a WINDOW's telling");
+        for (int changes = 0; changes <= 1; changes++) {
+            CongestionBench x = one(RENO, true, 2);
+            x.lose(1);
+            through(x, 129);
+            receiverIs(x, 0, 0, 1, 3, 0, 6, 130);
+            x.link(10, 20, 20, 200);
+            if (changes == 1) {
+                x.window(0, 39);
+                x.window(0, 40);
+            }
+            x.run(1);
+            receiverIs(x, 0, 3, 1, 6, NONE);
+            x.link(10, 20, 20, 1);
+            x.window(0, 41);
+            x.run(1);
+            x.window(0, 40);
+            through(x, 329);
+            senderIs(x, 0, 0, 1, 1, 2, 8, 0, 13, 40);
+            through(x, 330);
+            senderIs(x, 0, 0, 1, 1, 2, 8, 1 - changes, 13, 40);
         }
     }
 
@@ -291,6 +323,51 @@ public final class RecoveryEdges extends Due {
         x = quick(SACK, 10, 6);
         through(x, 62);
         senderIs(x, 0, 9, 1, 12, 1, 18, 1);
+    }
+
+    /** Of 400 to 599 only 448, 512 and 576 come: what is below 448 is LOST, what is between is not. */
+    private static void threeFarApart() {
+        part("V, three far apart");
+        CongestionBench x = wide(SACK, false);
+        x.link(1, 0, 1, 1);
+        for (int n = 400; n < 448; n++) {
+            x.lose(n);
+        }
+        for (int segments : new int[] {48, 64, 64, 24}) {
+            x.send(0, segments);
+            x.run(2);
+        }
+        x.run(1);
+        receiverIs(x, 0, 0, 400, 1, 3);
+        due("kept(0, 0)", x.kept(0, 0), 448);
+        due("kept(0, 2)", x.kept(0, 2), 576);
+        senderIs(x, 0, 0, 400, 1, 600, 8, 2, 9, 0, 18, 200);
+        x.run(1);
+        // 63 and 63 between them, 23 behind them, and 400, which is sent again.
+        senderIs(x, 0, 8, 3, 9, 1, 3, 102400, 12, 1, 18, 150);
+    }
+
+    /**
+     * "BOARD of the sender is all that the latest ACK told as KEPT": that of 5, which tells 6 and
+     * has nothing KEPT, takes 40 TICKS, and so comes behind those of 7 to 11.
+     */
+    private static void nothingOnBoard() {
+        part("V, nothing on BOARD");
+        CongestionBench x = quick(SACK, 14, 6);
+        through(x, 33);
+        x.link(1, 100, 10, 40);
+        x.run(1);
+        x.link(1, 100, 10, 9);
+        through(x, 73);
+        // 12, 13, and 6, which is sent again.
+        senderIs(x, 0, 0, 6, 1, 14, 3, 4096, 8, 4, 9, 1, 12, 1, 18, 3);
+        through(x, 74);
+        // 7 to 13, none of which is LOST now, and 6.
+        senderIs(x, 0, 0, 6, 1, 14, 8, 5, 12, 1, 18, 8);
+        through(x, 80);
+        senderIs(x, 0, 0, 6, 8, 6, 12, 1, 18, 2);
+        through(x, 83);
+        senderIs(x, 0, 0, 14, 9, 0, 12, 1, 18, 0);
     }
 
     /** "Without one NXT, if it is .. below UNA + W": UNA is 6, NXT 14, and W 7 to 10. */
